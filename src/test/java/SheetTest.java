@@ -116,7 +116,9 @@ final class SheetTest {
         x.lay(0, 0, 255);
         CHECK.due("a byte of 255 is -1", x.read(0, 0, 0, 1), -20);
         x.sheet(0, 1, 2);
+        x.move(0, 1);
         CHECK.due("a new row is of 0", x.read(0, 1, 0, 1), 1);
+        CHECK.dueHomes("cell 0 into group 0, as cell 1 ahead", x, "000");
         x.lay(0, 0, 65535);
         CHECK.due("a short of 65535 is -1", x.read(0, 1, 0, 1), -20);
     }
@@ -239,5 +241,7 @@ final class SheetTest {
         x.bleed(1);
         CHECK.due("two bled", x.count(4), 2);
         CHECK.due("greatest charge", x.count(5), 60);
+        x.drop(2);
+        CHECK.due("greatest charge of the first", x.count(5), 30);
     }
 }

@@ -137,6 +137,8 @@ final class TextTest {
         CHECK.dueText("5", -10, 2);
         CHECK.dueText("cell 5;", -10, 2);
         CHECK.dueText("cellsx 5;", -10, 2);
+        CHECK.dueText("bells 5;", -10, 2);
+        CHECK.dueText("cellt 5;", -10, 2);
         CHECK.dueText("cells", -15, 2);
         CHECK.dueText("cells  ", -17, 2);
         CHECK.dueText("cells ;", -16, 2);

@@ -13,6 +13,7 @@ final class WaysTest {
         takeKeepsWhatCellsHave();
         bounds();
         noCellsAndOne();
+        sixteenCells();
         CHECK.finish();
     }
 
@@ -108,6 +109,9 @@ final class WaysTest {
         dueWhere(three, 3, "01220");
         CHECK.due("of the greatest least sum", three.would(3, 0), 10);
         CHECK.due("that of least greatest sum", three.would(3, 1), 2);
+        CellPacks exact = Check.told("groups 3;cells 6 8 7 7;");
+        dueWhere(exact, 3, "0102");
+        CHECK.due("a least sum reached by the last cell", exact.would(3, 1), 6);
         CellPacks tie = Check.told("groups 4;cells 5 5 5;");
         dueWhere(tie, 3, "012");
         CHECK.due("least greatest sum where a group is empty", tie.would(3, 1), 5);
@@ -151,6 +155,20 @@ final class WaysTest {
         CHECK.due("weakest and differences reach it", two.bound(2), 2);
         CellPacks all = Check.told("cells 5 5 5 5;");
         CHECK.due("three ways reach it", all.bound(2), 3);
+    }
+
+    /** 16 down to 1 by four: each round of turns and of the weakest gives all groups 34. */
+    private static void sixteenCells() {
+        CellPacks x = Check.told("groups 4;cells 16 15 14 13 12 11 10 9 8 7 6 5 4 3 2 1;");
+        CHECK.due("bound of sixteen", x.bound(0), 34);
+        CHECK.due("weakest and differences reach it", x.bound(2), 2);
+        dueWhere(x, 1, "0123321001233210");
+        CHECK.due("the first two joined", x.joined(0), 1);
+        CHECK.dueTrue("fifteen are joined", x.joined(14) >= 0);
+        CHECK.due("not a sixteenth", x.joined(15), CellPacks.NONE);
+        CHECK.due("turns: 40 less 28", x.would(0, 1), 12);
+        CHECK.due("take weakest", x.take(1), 0);
+        CHECK.due("nothing is better", x.better(), CellPacks.NONE);
     }
 
     private static void noCellsAndOne() {
