@@ -943,7 +943,8 @@ public final class CellPacks {
     private static final class TextReader {
         private static final int NO_TOKEN = 1, MISPLACED = 2, OUT_OF_BOUNDS = 3, TWICE = 4, TOO_MANY = 5;
         private static final int NAME = 0, NUMBER = 1, SIGN = 2, END = 3;
-        private static final int GROUPS_LINE = 0, CELLS_LINE = 1, FLOOR_LINE = 2, RATE_LINE = 3, SLACK_LINE = 4, NO_LINE = 5;
+        private static final int GROUPS_LINE = 0, CELLS_LINE = 1, FLOOR_LINE = 2, RATE_LINE = 3, SLACK_LINE = 4;
+        private static final int NO_LINE = 5;
         private static final int MAX_FIGURES = 3;
 
         private final Tape tape;
