@@ -1,6 +1,9 @@
+import java.util.function.IntUnaryOperator;
+
 /** What the tests share: answers compared with those that are due, and texts fed to an object. */
 final class Check {
     private final String name;
+    private String subject = "";
     private int asked = 0;
     private int wrong = 0;
 
@@ -8,11 +11,24 @@ final class Check {
         this.name = name;
     }
 
+    /** What the next answers are about; it is told with those that are wrong. */
+    void about(String next) {
+        subject = next;
+    }
+
+    int asked() {
+        return asked;
+    }
+
+    void fail(String what) {
+        wrong++;
+        System.out.println(name + ": " + (subject.isEmpty() ? "" : "[" + subject + "] ") + what);
+    }
+
     void due(String call, long got, long want) {
         asked++;
         if (got != want) {
-            wrong++;
-            System.out.println(name + ": " + call + " answered " + got + ", due is " + want);
+            fail(call + " answered " + got + ", due is " + want);
         }
     }
 
@@ -20,16 +36,40 @@ final class Check {
         due(what, holds ? 1 : 0, 1);
     }
 
-    /** The groups of the first cells, one figure each. */
+    void dueSame(String what, String got, String want) {
+        asked++;
+        if (!got.equals(want)) {
+            fail(what + " is " + got + ", due is " + want);
+        }
+    }
+
+    /** The same answer for each of the arguments. */
+    void dueEach(String call, int want, IntUnaryOperator asking, int... arguments) {
+        for (int argument : arguments) {
+            due(call + " of " + argument, asking.applyAsInt(argument), want);
+        }
+    }
+
+    /** The answers for 0, 1 and so on. */
+    void dueRow(String call, IntUnaryOperator asking, int... wants) {
+        for (int what = 0; what < wants.length; what++) {
+            due(call + " " + what, asking.applyAsInt(what), wants[what]);
+        }
+    }
+
+    /** The groups of all cells, one figure each. */
     void dueHomes(String when, CellPacks x, String homes) {
         StringBuilder got = new StringBuilder();
         for (int i = 0; i < x.rule(0); i++) {
             got.append(x.cell(i, 2));
         }
-        asked++;
-        if (!homes.contentEquals(got)) {
-            wrong++;
-            System.out.println(name + ": " + when + " the groups are " + got + ", due is " + homes);
+        dueSame("row of groups " + when, got.toString(), homes);
+    }
+
+    /** The groups that a way would put the cells into, one figure each. */
+    void dueWhere(CellPacks x, int way, String homes) {
+        for (int i = 0; i < homes.length(); i++) {
+            due("where(" + way + ", " + i + ")", x.where(way, i), homes.charAt(i) - '0');
         }
     }
 

@@ -118,11 +118,11 @@ final class FaceTest {
         long thread = Thread.currentThread().getId();
         dearCalls(x);
         long before = bean.getThreadAllocatedBytes(thread);
-        for (int i = 0; i < 50; i++) {
+        for (int i = 0; i < 20; i++) {
             dearCalls(x);
         }
         long made = bean.getThreadAllocatedBytes(thread) - before;
-        CHECK.dueTrue("bytes made by calls: " + made, made < 10_000);
+        CHECK.dueTrue("bytes made by calls: " + made, made < 2_000);
     }
 
     private static void dearCalls(CellPacks x) {

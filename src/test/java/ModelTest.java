@@ -2,8 +2,9 @@ import java.util.Random;
 
 /** Runs of random calls, always the same ones, on the class and on NaivePacks: each answer must be the same. */
 final class ModelTest {
-    private static final int RUNS = 1200;
-    private static final int CALLS = 512;
+    private static final int RUNS = 1500;
+    /** A step makes at most a hundred calls more, so that none comes behind the 512th. */
+    private static final int CALLS = 410;
     private static final String[] WORDS = {"groups ", "cells ", "floor ", "rate ", "slack ", "cell", ";", "; ", " ", ".", "0", "7 ", "3", "100", "1000"};
     private static final int[] ODD = {Integer.MIN_VALUE, Integer.MAX_VALUE, -2, -1, 1000, 201, 41, 21, 17, 6};
 

@@ -27,13 +27,7 @@ final class SheetTest {
         CHECK.due("back of none", x.back(1), CellPacks.STATE);
         CHECK.due("keep", x.keep(1), 0);
         CHECK.due("back of the other", x.back(0), CellPacks.STATE);
-        x.groups(5);
-        x.rate(0, 9);
-        x.rate(1, 9);
-        x.rate(2, 9);
-        x.fill();
-        x.drop(2);
-        x.set(0, 77);
+        Picture.changeAll(x);
         CHECK.due("back", x.back(1), 3);
         int[] rules = {3, 3, 1, 2, 3, 0, 0, 43, 49, 51};
         for (int what = 0; what < rules.length; what++) {

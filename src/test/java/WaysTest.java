@@ -38,16 +38,10 @@ final class WaysTest {
         CHECK.dueHomes("nothing changed", x, "010");
     }
 
-    private static void dueWhere(CellPacks x, int way, String homes) {
-        for (int i = 0; i < homes.length(); i++) {
-            CHECK.due("where(" + way + ", " + i + ")", x.where(way, i), homes.charAt(i) - '0');
-        }
-    }
-
     private static void turns() {
         CellPacks x = Check.told("groups 3;cells 9 8 7 6 5 4 3;");
         x.take(1);
-        dueWhere(x, 0, "0120120");
+        CHECK.dueWhere(x, 0, "0120120");
         CHECK.due("least by turns", x.would(0, 0), 11);
         CHECK.due("spread by turns", x.would(0, 1), 7);
         CHECK.due("take turns", x.take(0), 7);
@@ -58,7 +52,7 @@ final class WaysTest {
     /** 70 60 50 40 30 20: each into the least so far; alike sums go to the first group. */
     private static void weakest() {
         CellPacks x = Check.told("groups 3;cells 20 30 40 50 60 70;");
-        dueWhere(x, 1, "012210");
+        CHECK.dueWhere(x, 1, "012210");
         CHECK.due("least by weakest", x.would(1, 0), 90);
         CHECK.due("spread by weakest", x.would(1, 1), 0);
         CHECK.due("others by weakest", x.would(1, 2), 2);
@@ -66,7 +60,7 @@ final class WaysTest {
         CHECK.due("take weakest", x.take(1), 0);
         CHECK.dueHomes("by weakest", x, "012210");
         CellPacks alike = Check.told("groups 2;cells 5 5 5 5 5;");
-        dueWhere(alike, 1, "01010");
+        CHECK.dueWhere(alike, 1, "01010");
     }
 
     /** By two: 8 less 7 is 1, 6 less 5 is 1; 4 with the latter is 4 and 5 less 6; then 9 and 7 less 6 and 8. */
@@ -77,7 +71,7 @@ final class WaysTest {
         CHECK.due("joined 2", x.joined(2), 1);
         CHECK.due("joined 3", x.joined(3), 3);
         CHECK.due("joined 4", x.joined(4), CellPacks.NONE);
-        dueWhere(x, 2, "00101");
+        CHECK.dueWhere(x, 2, "00101");
         CHECK.due("least by differences", x.would(2, 0), 14);
         CHECK.due("spread by differences", x.would(2, 1), 2);
         CHECK.due("others by differences", x.would(2, 2), 4);
@@ -88,11 +82,11 @@ final class WaysTest {
     /** Alike bundles stand by their least cells; one cell a group, and empty groups last. */
     private static void differencesOfAlikeBundles() {
         CellPacks x = Check.told("groups 3;cells 7 7 7;");
-        dueWhere(x, 2, "012");
+        CHECK.dueWhere(x, 2, "012");
         CHECK.due("joined 0 of alike", x.joined(0), 1);
         CHECK.due("joined 1 of alike", x.joined(1), 2);
         CellPacks few = Check.told("groups 5;cells 3 9;");
-        dueWhere(few, 2, "10");
+        CHECK.dueWhere(few, 2, "10");
         CHECK.due("joined of two", few.joined(0), 100);
         CHECK.due("a group stays empty", few.would(2, 0), 0);
         CHECK.due("spread of two", few.would(2, 1), 9);
@@ -102,18 +96,18 @@ final class WaysTest {
         CellPacks x = Check.told("cells 8 7 6 5 4;");
         CHECK.due("least by differences", x.would(2, 0), 14);
         CHECK.due("least by best", x.would(3, 0), 15);
-        dueWhere(x, 3, "00111");
+        CHECK.dueWhere(x, 3, "00111");
         CHECK.due("take best", x.take(3), 0);
         CHECK.dueHomes("by best", x, "00111");
         CellPacks three = Check.told("groups 3;cells 10 10 6 6 1;");
-        dueWhere(three, 3, "01220");
+        CHECK.dueWhere(three, 3, "01220");
         CHECK.due("of the greatest least sum", three.would(3, 0), 10);
         CHECK.due("that of least greatest sum", three.would(3, 1), 2);
         CellPacks exact = Check.told("groups 3;cells 6 8 7 7;");
-        dueWhere(exact, 3, "0102");
+        CHECK.dueWhere(exact, 3, "0102");
         CHECK.due("a least sum reached by the last cell", exact.would(3, 1), 6);
         CellPacks tie = Check.told("groups 4;cells 5 5 5;");
-        dueWhere(tie, 3, "012");
+        CHECK.dueWhere(tie, 3, "012");
         CHECK.due("least greatest sum where a group is empty", tie.would(3, 1), 5);
     }
 
@@ -162,7 +156,7 @@ final class WaysTest {
         CellPacks x = Check.told("groups 4;cells 16 15 14 13 12 11 10 9 8 7 6 5 4 3 2 1;");
         CHECK.due("bound of sixteen", x.bound(0), 34);
         CHECK.due("weakest and differences reach it", x.bound(2), 2);
-        dueWhere(x, 1, "0123321001233210");
+        CHECK.dueWhere(x, 1, "0123321001233210");
         CHECK.due("the first two joined", x.joined(0), 1);
         CHECK.dueTrue("fifteen are joined", x.joined(14) >= 0);
         CHECK.due("not a sixteenth", x.joined(15), CellPacks.NONE);
