@@ -165,6 +165,9 @@ final class BoundariesOfWayTerms {
         CellPacks nine = Check.told("groups 5;cells 11 12 13 14 15 16 17 18 19;");
         check.due("nine by five: 19 alone, the others two by two", nine.would(3, 0), 19);
         check.due("1 to 9 by five, 9 each", Check.told("groups 5;cells 1 2 3 4 5 6 7 8 9;").would(3, 1), 0);
+        CellPacks gone = Check.told("cells 1 1 9;");
+        gone.drop(2);
+        check.dueWhere(gone, 3, "01");
     }
 
     /** The least is 10 wherever 1 goes: it may not go to 6 and 6. */
