@@ -2,6 +2,8 @@ import java.util.function.IntUnaryOperator;
 
 /** What the tests share: answers compared with those that are due, and texts fed to an object. */
 final class Check {
+    /** One cause may make thousands of answers wrong: the first ones tell enough. */
+    private static final int MOST_TOLD = 40;
     private final String name;
     private String subject = "";
     private int asked = 0;
@@ -22,7 +24,9 @@ final class Check {
 
     void fail(String what) {
         wrong++;
-        System.out.println(name + ": " + (subject.isEmpty() ? "" : "[" + subject + "] ") + what);
+        if (wrong <= MOST_TOLD) {
+            System.out.println(name + ": " + (subject.isEmpty() ? "" : "[" + subject + "] ") + what);
+        }
     }
 
     void due(String call, long got, long want) {

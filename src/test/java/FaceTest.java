@@ -16,15 +16,20 @@ import java.util.regex.Pattern;
 /** The public face, the rules of LANGUAGE.md that can be looked up, and how little a run makes. */
 final class FaceTest {
     private static final Check CHECK = new Check("FaceTest");
+    private static final Path SOURCE = Path.of("src/main/java/CellPacks.java");
+    private static final Path DOCUMENT = Path.of("../shared/DOC.md");
     private static final String FACE = "feed1 end1 text0 fault0 rule1 cell2 group2 take1 would2 where2 bound1 joined1 "
         + "move2 swap2 better0 add1 drop1 set2 rate2 groups1 bleed1 plan1 fill0 draw2 keep1 back1 sheet3 lay3 read4 torn0 count1";
 
     public static void main(String[] args) throws Exception {
         constants();
         methods();
+        asTheDocumentWrites();
+        inTheOrderOfTheInterface();
         nothingElseIsVisible();
         classesInside();
         words();
+        lengths();
         room();
         CHECK.finish();
     }
@@ -53,6 +58,48 @@ final class FaceTest {
         CHECK.due("its parameters", CellPacks.class.getConstructors()[0].getParameterCount(), 0);
     }
 
+    /** The face of the document and the signature of each promise, to the letter. */
+    private static void asTheDocumentWrites() throws IOException {
+        String source = Files.readString(SOURCE);
+        String document = Files.readString(DOCUMENT);
+        String face = document.substring(document.indexOf("```java"), document.indexOf("## Terms"));
+        int told = 0;
+        Matcher line = Pattern.compile("(?m)^ +(public [^;]+);$").matcher(face);
+        while (line.find()) {
+            told++;
+            String end = line.group(1).contains("=") ? ";" : " {";
+            CHECK.dueTrue(line.group(1), source.contains("\n    " + line.group(1) + end));
+        }
+        CHECK.due("lines of the face", told, FACE.split(" ").length + 2);
+        Matcher promise = Pattern.compile("(?m)^`([^`]+\\))`:").matcher(document);
+        int promises = 0;
+        while (promise.find()) {
+            promises++;
+            CHECK.dueTrue(promise.group(1), source.contains("\n    public " + promise.group(1) + " {"));
+        }
+        CHECK.due("promises", promises, 32);
+    }
+
+    /** Calls stand in the order of the document, each part behind the words that are said ahead of it. */
+    private static void inTheOrderOfTheInterface() throws IOException {
+        String source = Files.readString(SOURCE);
+        Matcher part = Pattern.compile("Ahead of the calls (.*) the interface says: (---- .*)\\.").matcher(Files.readString(DOCUMENT));
+        int at = 0;
+        while (part.find()) {
+            at = dueBehind(source, "\n    // " + part.group(2) + "\n", at);
+            for (String call : part.group(1).replace("`", "").split(", ")) {
+                at = dueBehind(source, "\n    public int " + call + "(", at);
+            }
+        }
+        CHECK.dueTrue("parts are told", at > 0);
+    }
+
+    private static int dueBehind(String source, String words, int at) {
+        int found = source.indexOf(words, at);
+        CHECK.dueTrue("'" + words.trim() + "' stands behind what is told ahead of it", found >= 0);
+        return Math.max(at, found);
+    }
+
     private static void nothingElseIsVisible() {
         Set<String> names = Set.of("BAD", "STATE", "FULL", "NONE");
         CHECK.dueTrue("the class is public and final",
@@ -61,8 +108,10 @@ final class FaceTest {
             CHECK.dueTrue(f + " is private", names.contains(f.getName()) == Modifier.isPublic(f.getModifiers())
                 && (names.contains(f.getName()) || isPrivate(f)));
         }
+        Set<String> face = faceNames();
         for (Method m : CellPacks.class.getDeclaredMethods()) {
             CHECK.dueTrue(m + " is private or public", isPrivate(m) || Modifier.isPublic(m.getModifiers()));
+            CHECK.dueTrue(m + " has a name of its own", !isPrivate(m) || !face.contains(m.getName()));
         }
     }
 
@@ -70,11 +119,16 @@ final class FaceTest {
         return Modifier.isPrivate(m.getModifiers());
     }
 
-    private static void classesInside() {
-        Set<String> face = new TreeSet<>();
+    private static Set<String> faceNames() {
+        Set<String> names = new TreeSet<>();
         for (String name : FACE.split(" ")) {
-            face.add(name.substring(0, name.length() - 1));
+            names.add(name.substring(0, name.length() - 1));
         }
+        return names;
+    }
+
+    private static void classesInside() {
+        Set<String> face = faceNames();
         CHECK.dueTrue("at most twelve classes", CellPacks.class.getDeclaredClasses().length < 12);
         for (Class<?> inside : CellPacks.class.getDeclaredClasses()) {
             CHECK.dueTrue(inside + " is static", Modifier.isStatic(inside.getModifiers()));
@@ -93,7 +147,7 @@ final class FaceTest {
     }
 
     private static void words() throws IOException {
-        String source = Files.readString(Path.of("src/main/java/CellPacks.java"));
+        String source = Files.readString(SOURCE);
         String code = source.replaceAll("(?s)/\\*.*?\\*/", "").replaceAll("//[^\n]*", "").replaceAll("\"[^\"]*\"", "\"\"");
         Matcher bad = Pattern.compile("\\b(throw|throws|try|catch|synchronized|assert|package|var|Exception)\\b|->|::|@|\\w+Exact\\b").matcher(code);
         CHECK.dueTrue("no word that is ruled out", !bad.find());
@@ -109,6 +163,17 @@ final class FaceTest {
         }
         CHECK.dueTrue("the library's functions " + used, library.containsAll(used.keySet()));
         CHECK.dueTrue("the source is of plain signs", source.chars().allMatch(c -> c > 0 && c < 127));
+    }
+
+    /** A method ends with the brace that stands as far in as its first line. */
+    private static void lengths() throws IOException {
+        Matcher method = Pattern.compile("(?ms)^( +)(?:public|private) ([^=;{]*\\)) \\{\n(.*?)^\\1\\}$").matcher(Files.readString(SOURCE));
+        int told = 0;
+        while (method.find()) {
+            told++;
+            CHECK.dueTrue(method.group(2) + " is short", method.group(3).split("\n").length <= 60);
+        }
+        CHECK.dueTrue("methods are found: " + told, told > FACE.split(" ").length);
     }
 
     /** After the constructor nothing is made, whatever is called. */
