@@ -1,6 +1,6 @@
 import java.util.Arrays;
 
-/** All short texts and all packs of a few small cells, on the class and on NaivePacks: each answer must be the same. */
+/** All short texts of some tokens and all packs of a few small cells, on the class and on NaivePacks: each answer must be the same. */
 final class AllSmallTest {
     private static final Check CHECK = new Check("AllSmallTest");
     private static final String[] TOKENS = {"groups", "cells", "floor", "rate", "slack", "cellsx", "0", "1", "5", "6", "99", "100", "999", "1000", ";", ".", "A"};
